@@ -498,7 +498,7 @@ public final class ZipForms {
         return ~s;
     }
 
-    /** THE BYTES. The number readers are called only where holds() has been asked for, or a row's bounds. */
+    /** THE BYTES. A number is 0 where it goes beyond the cells, since a row's lengths are read ahead of its bounds. */
     private static final class Store {
         final byte[] cells = new byte[BYTE_LIMIT];
         int count = 0;
@@ -516,11 +516,19 @@ public final class ZipForms {
         }
 
         long number4(int i) {
-            return number2(i) | (long) number2(i + 2) << 16;
+            return longNumber(i, 4);
         }
 
         long number8(int i) {
-            return number4(i) | number4(i + 4) << 32;
+            return longNumber(i, 8);
+        }
+
+        private long longNumber(int i, int n) {
+            long v = 0;
+            for (int k = 0; k < n; k++) {
+                v |= (long) number1(i + k) << 8 * k;
+            }
+            return v;
         }
 
         boolean isSame(int i, int j, int n) {
