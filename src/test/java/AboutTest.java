@@ -202,14 +202,15 @@ public final class AboutTest {
         Check.folder(x, "a");
         Check.folder(x, "a");
         Check.file(x, "ac", "");
-        int[] due = {0, 1, 0, 3, 3, 5};
+        Check.file(x, "bc", "");
+        int[] due = {0, 1, 0, 3, 3, 5, 6};
         for (int e = 0; e < due.length; e++) {
             Check.due("same(" + e + ")", x.same(e), due[e]);
         }
         x.name(0, 'c', 1);
         Check.due("same: renamed", x.same(5), 0);
         Check.due("same: the other", x.same(2), 2);
-        Check.due("same: UNKNOWN", x.same(6), ZipForms.UNKNOWN);
+        Check.due("same: UNKNOWN", x.same(7), ZipForms.UNKNOWN);
         Check.due("same: -1", x.same(-1), ZipForms.UNKNOWN);
     }
 

@@ -12,6 +12,7 @@ public final class BytesTest {
         rowsOfAllForms();
         writeRefusals();
         writeFullEdge();
+        fullOfStreamed();
         javaReadsIt();
         adds();
         addRefusals();
@@ -233,6 +234,26 @@ public final class BytesTest {
         x.clear();
         x.entry(0, 0, 97, 1);
         Check.due("add: FAULT ahead of FULL", x.add(0), -31);
+    }
+
+    /** What is behind DATA counts for FULL as well: 12 of 39 + 40 + 16 + 55 bytes, 7 PARTS and THE END. */
+    private static void fullOfStreamed() {
+        ZipForms x = new ZipForms();
+        for (int i = 0; i < 12; i++) {
+            Check.made(x, 1, 1, "abcdefghi", "0123456789012345678901234567890123456789");
+        }
+        Check.due("STREAMED: 1822", x.write(), 1822);
+        for (int i = 0; i < 7; i++) {
+            x.part(i, 2, 0, 8);
+        }
+        Check.due("STREAMED: 1990", x.write(), 1990);
+        x.comment(0, 8);
+        Check.due("STREAMED: 1998", x.write(), 1998);
+        x.name(0, 'x', 1);
+        Check.due("STREAMED: 2000", x.write(), 2000);
+        x.name(0, 'x', 1);
+        Check.due("STREAMED: 2002", x.write(), ZipForms.FULL);
+        Check.due("STREAMED: stays", x.told(1), 2000);
     }
 
     private static void javaReadsIt() throws IOException {

@@ -17,6 +17,7 @@ public final class ReadTest {
         dataIsBeyond();
         behindIsOther();
         bytesAreShared();
+        bytesBehindAreShared();
         namesAreUnsafe();
         orderOfFaults();
         notLookedAt();
@@ -276,6 +277,13 @@ public final class ReadTest {
         fails("a FOLDER with METHOD 8", x, 5, centre);
         setSizes(x, centre, 0, 1);
         fails("a FOLDER with a TRUE size", x, 5, centre);
+        // "/" alone is a FOLDER as well, which is told ahead of its not being SAFE.
+        ZipForms slash = new ZipForms();
+        Check.made(slash, 1, 0, "a", "");
+        slash.write();
+        Check.set(slash, 30, '/');
+        Check.set(slash, 31 + 46, '/');
+        fails("/ alone with METHOD 8", slash, 5, 31);
         x = folderRead();
         Check.set(x, centre + 8, 8);
         fails("a FOLDER with FLAGS 8", x, 5, centre);
@@ -502,6 +510,22 @@ public final class ReadTest {
         feedNumbers(y, new long[] {0x02014B50L, 4, 20, 2, 20, 2, 0, 8, 0, 4, 0, 4, 0, 4, 1, 2, 0, 2,
             0, 6, 0, 4, 31, 4, 'a', 1});
         feedNumbers(y, new long[] {0x06054B50L, 4, 0, 4, 2, 2, 2, 2, 94, 4, centre, 4, 0, 2});
+    }
+
+    /** The SUM behind the DATA of the first is the SIGN of the second one's LOCAL row, its size the VERSION. */
+    private static void bytesBehindAreShared() {
+        ZipForms x = new ZipForms();
+        feedNumbers(x, new long[] {0x04034B50L, 4, 20, 2, 8, 2, 8, 2, 0, 4, 0, 12, 1, 2, 0, 2, 'a', 1, 'D', 1,
+            0x08074B50L, 4, 0x04034B50L, 4, 1, 4, 0, 4});
+        int place = 31 + 1 + 4;
+        feedNumbers(x, new long[] {0, 2, 0, 12, 1, 2, 0, 2, 'b', 1});
+        int centre = x.told(1);
+        feedNumbers(x, new long[] {0x02014B50L, 4, 20, 2, 20, 2, 8, 2, 8, 2, 0, 4, 0x04034B50L, 4, 1, 4, 0, 4,
+            1, 2, 0, 2, 0, 6, 0, 4, 0, 4, 'a', 1});
+        feedNumbers(x, new long[] {0x02014B50L, 4, 20, 2, 1, 2, 0, 2, 0, 2, 0, 4, 0, 12,
+            1, 2, 0, 2, 0, 6, 0, 4, place, 4, 'b', 1});
+        feedNumbers(x, new long[] {0x06054B50L, 4, 0, 4, 2, 2, 2, 2, 94, 4, centre, 4, 0, 2});
+        fails("a LOCAL row within what is behind DATA", x, 9, place);
     }
 
     private static void growFirst(ZipForms x, int size) {
