@@ -284,7 +284,7 @@ public final class ZipForms {
             case 7: return it.partCount;
             case 8: return it.form == WIDE ? 1 : 0;
             case 9: return it.localPlace;
-            case 10: return it.lacksData() ? 1 : 0;
+            case 10: return it.hasData ? 0 : 1;
             default: return OUTSIDE;
         }
     }
@@ -617,6 +617,7 @@ public final class ZipForms {
             }
         }
 
+        /** A FOLDER never has DATA, so none is missing there: only a FILE without it is a FAULT. */
         boolean lacksData() {
             return kind != FOLDER && !hasData;
         }

@@ -2,6 +2,7 @@
 public final class AboutTest {
     public static void main(String[] args) {
         abouts();
+        aboutFolderData();
         aboutPlaces();
         letters();
         octets();
@@ -34,7 +35,7 @@ public final class AboutTest {
         int[][] due = {
             {0, 3, 0, 0, 0, 0, 0, 0, 0, -1, 0},
             {1, 1, 8, 8, 0, 0, -2, 0, 0, -1, 1},
-            {2, 2, 0, 0, 4096, 10 * 512 + 2 * 32 + 3, 0, 0, 0, -1, 0},
+            {2, 2, 0, 0, 4096, 10 * 512 + 2 * 32 + 3, 0, 0, 0, -1, 1},
             {0, 1, 0, 0, 0, 0, 0, 1, 1, -1, 1}};
         for (int e = 0; e < due.length; e++) {
             for (int what = 0; what < due[e].length; what++) {
@@ -46,6 +47,30 @@ public final class AboutTest {
         Check.due("about: UNKNOWN", x.about(4, 0), ZipForms.UNKNOWN);
         Check.due("about: UNKNOWN ahead of OUTSIDE", x.about(-1, 11), ZipForms.UNKNOWN);
         Check.due("about: highest", x.about(Integer.MAX_VALUE, 0), ZipForms.UNKNOWN);
+    }
+
+    private static void aboutFolderData() {
+        ZipForms x = new ZipForms();
+        Check.folder(x, "d");
+        Check.due("FOLDER: DATA is nothing", x.about(0, 10), 1);
+        x.data(0, 97, 1);
+        Check.due("FOLDER: still nothing behind data()", x.about(0, 10), 1);
+        Check.due("FOLDER: write() needs no DATA of it", x.write(), 32 + 48 + 22);
+        Check.due("FOLDER: add() needs none", x.add(1), 102 + 48 + 22);
+        Check.due("FOLDER: read()", x.read(), 1);
+        Check.due("FOLDER: nothing behind read()", x.about(0, 10), 1);
+        x.clear();
+        Check.file(x, "f", "1");
+        x.clear();
+        Check.folder(x, "d");
+        Check.due("FOLDER: nothing where a FILE was", x.about(0, 10), 1);
+        x.clear();
+        Check.made(x, 0, 0, "e", null);
+        x.data(0, 0, 0);
+        Check.due("FILE: of no bytes is not nothing", x.about(0, 10), 0);
+        x.write();
+        x.read();
+        Check.due("FILE: of no bytes, read, is not nothing", x.about(0, 10), 0);
     }
 
     private static void aboutPlaces() {
