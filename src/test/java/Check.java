@@ -55,9 +55,17 @@ final class Check {
         return e;
     }
 
+    /** By words, since an object is good for 512 calls alone. */
     static byte[] bytes(ZipForms x) {
         byte[] all = new byte[x.told(1)];
-        for (int i = 0; i < all.length; i++) {
+        int words = all.length / 4 * 4;
+        for (int i = 0; i < words; i += 4) {
+            long word = x.word(i);
+            for (int k = 0; k < 4; k++) {
+                all[i + k] = (byte) (word >>> 8 * k);
+            }
+        }
+        for (int i = words; i < all.length; i++) {
             all[i] = (byte) x.at(i);
         }
         return all;

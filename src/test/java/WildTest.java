@@ -1,18 +1,23 @@
+import java.nio.ByteBuffer;
+import java.nio.ByteOrder;
 import java.util.Random;
 
-/** Long runs of calls with arguments of every sort, the same at each run of the test. */
+/** Runs of calls with arguments of every sort, and bytes that were spoiled: the same at each run of the test. */
 public final class WildTest {
     private static final int[] EDGES = {Integer.MIN_VALUE, Integer.MIN_VALUE + 1, -31, -2, -1, 0, 1, 2, 3, 7, 8, 9, 11,
         12, 13, 16, 40, 255, 256, 1999, 2000, 2001, 65535, 65536, Integer.MAX_VALUE - 3, Integer.MAX_VALUE};
     private static final String[] NAMES = {"a", "b/c", "..", "x.txt", "/r", "q\\r", "d/../e", "m//n", "long.name"};
+    /** Each may look at told(1) ahead of it, and told(3) behind: three by 160 are within the 512 of an object. */
+    private static final int CALLS = 160;
+    private static final int KINDS = 26, CHANGING = 14, ABOUT = 17;
     private static final int[] KINDS_SEEN = new int[12];
 
     public static void main(String[] args) {
-        for (int seed = 0; seed < 300; seed++) {
-            wildCalls(new Random(seed));
+        for (int seed = 0; seed < 600; seed++) {
+            wildCalls(seed);
         }
         for (int seed = 0; seed < 4000; seed++) {
-            readers(new Random(seed));
+            readers(seed);
         }
         for (int kind = 1; kind <= 10; kind++) {
             Check.due("KIND " + kind + " was met", KINDS_SEEN[kind] > 0 ? 1 : 0, 1);
@@ -29,31 +34,45 @@ public final class WildTest {
             + (char) ('a' + r.nextInt(26)) + (char) ('a' + r.nextInt(26)));
     }
 
-    private static void wildCalls(Random r) {
+    private static void wildCalls(int seed) {
+        Random r = new Random(seed);
+        Random looks = new Random(-seed);
         ZipForms x = new ZipForms();
-        for (int call = 0; call < 512; call++) {
-            String before = r.nextInt(8) == 0 ? state(x) : null;
-            int fault = x.told(3);
-            int which = r.nextInt(26);
+        int fault = 0;
+        for (int call = 0; call < CALLS; call++) {
+            int which = r.nextInt(KINDS);
             long got;
             try {
-                got = which < 14 ? change(x, r, which) : look(x, r, which);
+                got = which < CHANGING ? change(x, r, which) : look(x, r, which);
             } catch (RuntimeException e) {
                 Check.due("call " + which + " threw " + e, 1, 0);
                 return;
             }
             // ATTRIBUTES, which about() tells, may be any number.
-            boolean isFault = got <= -31 && got >= -33 && which != 17;
-            if (isFault) {
-                Check.due("the fault of call " + which, x.told(3), -30 - got);
-            } else {
-                Check.due("no fault of call " + which, x.told(3), fault);
-            }
-            boolean mayChange = which < 14 && got >= 0;
-            if (before != null && !mayChange) {
-                Check.due("call " + which + " answered " + got + " and changed", state(x).equals(before) ? 0 : 1, 0);
+            boolean isFault = got <= -31 && got >= -33 && which != ABOUT;
+            fault = isFault ? (int) (-30 - got) : fault;
+            Check.due("told(3) behind call " + which, x.told(3), fault);
+            boolean mayChange = which < CHANGING && got >= 0;
+            if (!mayChange && looks.nextInt(40) == 0) {
+                boolean isSame = Edge.seen(first(seed, call)).equals(Edge.seen(first(seed, call + 1)));
+                Check.due("call " + which + " answered " + got + " and changed", isSame ? 0 : 1, 0);
             }
         }
+    }
+
+    /** The first calls of the run of this seed. */
+    private static Edge.Steps first(int seed, int calls) {
+        return x -> {
+            Random r = new Random(seed);
+            for (int call = 0; call < calls; call++) {
+                int which = r.nextInt(KINDS);
+                if (which < CHANGING) {
+                    change(x, r, which);
+                } else {
+                    look(x, r, which);
+                }
+            }
+        };
     }
 
     private static long change(ZipForms x, Random r, int which) {
@@ -82,7 +101,7 @@ public final class WildTest {
             case 14: return x.at(some(r, 1 + x.told(1)));
             case 15: return x.half(some(r, 1 + x.told(1)));
             case 16: return x.word(some(r, 1 + x.told(1)));
-            case 17: return x.about(e, some(r, 11));
+            case ABOUT: return x.about(e, some(r, 11));
             case 18: return x.letter(e, some(r, 9));
             case 19: return x.octet(e, some(r, 9));
             case 20: return x.size(e, some(r, 3));
@@ -96,52 +115,18 @@ public final class WildTest {
         }
     }
 
-    /** All that can be seen but the latest FAULT and the place of a reading's fault. */
-    private static String state(ZipForms x) {
-        StringBuilder s = new StringBuilder();
-        for (int i = 0; i < x.told(1); i++) {
-            s.append(x.at(i)).append(' ');
-        }
-        s.append(x.told(2)).append('|');
-        for (int e = 0; e < x.told(0); e++) {
-            for (int what = 0; what <= 10; what++) {
-                s.append(x.about(e, what)).append(' ');
-            }
-            for (int i = 0; i < x.about(e, 1); i++) {
-                s.append(x.letter(e, i)).append(' ');
-            }
-            stateOfData(x, e, s);
-            for (int k = 0; k < x.about(e, 7); k++) {
-                s.append(x.extra(e, k, 0, 0)).append(':');
-                for (int i = 0; i < x.extra(e, k, 1, 0); i++) {
-                    s.append(x.extra(e, k, 2, i)).append(' ');
-                }
-            }
-            s.append('|');
-        }
-        return s.toString();
-    }
-
-    /** Looks only where there is no FAULT, which would itself be told. */
-    private static void stateOfData(ZipForms x, int e, StringBuilder s) {
-        if (x.about(e, 0) == 2) {
-            return;
-        }
-        if (x.about(e, 0) == 1) {
-            s.append(x.size(e, 1)).append(' ').append(x.size(e, 2)).append(' ');
-        }
-        if (x.about(e, 10) == 1) {
-            return;
-        }
-        s.append(x.size(e, 2)).append(' ').append(x.right(e)).append(' ');
-        for (int i = 0; i < x.size(e, 0); i++) {
-            s.append(x.octet(e, i)).append(' ');
+    /** Bytes that were written, with a few changed, read by both. */
+    private static void readers(int seed) {
+        byte[] bytes = Edge.bytes(x -> make(x, new Random(seed)));
+        Random r = new Random(seed);
+        compare(bytes);
+        for (int round = 0; round < 6; round++) {
+            spoil(bytes, r);
+            compare(bytes);
         }
     }
 
-    /** A written file with a few bytes changed, read by both. */
-    private static void readers(Random r) {
-        ZipForms x = new ZipForms();
+    private static void make(ZipForms x, Random r) {
         int count = 1 + r.nextInt(3);
         long alike = r.nextLong();
         for (int i = 0; i < count; i++) {
@@ -152,11 +137,6 @@ public final class WildTest {
         for (int i = r.nextInt(3); i > 0 && x.told(1) < 800; i--) {
             makeOne(x, r);
             x.add(r.nextInt(x.told(0)));
-        }
-        compare(x);
-        for (int round = 0; round < 6; round++) {
-            spoil(x, r);
-            compare(x);
         }
     }
 
@@ -172,61 +152,64 @@ public final class WildTest {
         }
     }
 
-    private static void spoil(ZipForms x, Random r) {
-        int all = x.told(1);
-        int centre = (int) Math.max(0, Math.min(all - 1, centrePlace(x)));
+    private static void spoil(byte[] bytes, Random r) {
+        int all = bytes.length;
+        int centre = (int) Math.max(0, Math.min(all - 1, centrePlace(bytes)));
         switch (r.nextInt(6)) {
             case 0:
-                x.poke(r.nextInt(all), 1 << r.nextInt(8));
+                bytes[r.nextInt(all)] ^= (byte) (1 << r.nextInt(8));
                 break;
             case 1:
-                Check.set(x, Math.min(all - 1, centre + r.nextInt(46)), r.nextInt(10));
+                bytes[Math.min(all - 1, centre + r.nextInt(46))] = (byte) r.nextInt(10);
                 break;
             case 2:
-                Check.set(x, Math.min(all - 1, centre + 20 + r.nextInt(26)), EDGES[r.nextInt(EDGES.length)] & 255);
+                bytes[Math.min(all - 1, centre + 20 + r.nextInt(26))] = (byte) EDGES[r.nextInt(EDGES.length)];
                 break;
             case 3:
-                Check.set(x, Math.max(0, all - 1 - r.nextInt(26)), r.nextInt(14));
+                bytes[Math.max(0, all - 1 - r.nextInt(26))] = (byte) r.nextInt(14);
                 break;
             case 4:
-                x.poke(r.nextInt(1 + centre), 255);
+                bytes[r.nextInt(1 + centre)] ^= (byte) 255;
                 break;
             default:
-                pointSecondAtFirst(x, centre);
+                pointSecondAtFirst(ByteBuffer.wrap(bytes).order(ByteOrder.LITTLE_ENDIAN), centre);
                 break;
         }
     }
 
     /** Rows of the same NAME and form share their bytes then. */
-    private static void pointSecondAtFirst(ZipForms x, int centre) {
-        if (centre + 46 > x.told(1)) {
+    private static void pointSecondAtFirst(ByteBuffer b, int centre) {
+        if (centre + 46 > b.capacity()) {
             return;
         }
-        int second = centre + 46 + x.half(centre + 28) + x.half(centre + 30);
-        if (second + 46 <= x.told(1)) {
-            Check.set(x, second + 42, x.word(centre + 42), 4);
+        int second = centre + 46 + (b.getShort(centre + 28) & 0xFFFF) + (b.getShort(centre + 30) & 0xFFFF);
+        if (second + 46 <= b.capacity()) {
+            b.putInt(second + 42, b.getInt(centre + 42));
         }
     }
 
-    private static long centrePlace(ZipForms x) {
-        for (int i = x.told(1) - 22; i >= 0; i--) {
-            if (x.word(i) == 0x06054B50L) {
-                return x.word(i + 16);
+    private static long centrePlace(byte[] bytes) {
+        ByteBuffer b = ByteBuffer.wrap(bytes).order(ByteOrder.LITTLE_ENDIAN);
+        for (int i = bytes.length - 22; i >= 0; i--) {
+            if (b.getInt(i) == 0x06054B50) {
+                return b.getInt(i + 16) & 0xFFFFFFFFL;
             }
         }
         return 0;
     }
 
-    private static void compare(ZipForms x) {
+    private static void compare(byte[] bytes) {
         int answer;
         int place = ZipForms.NONE;
         try {
-            answer = new PlainReader(Check.bytes(x)).entries();
+            answer = new PlainReader(bytes).entries();
         } catch (PlainReader.Fault f) {
             answer = -10 - f.kind;
             place = (int) f.place;
             KINDS_SEEN[f.kind]++;
         }
+        ZipForms x = new ZipForms();
+        Forge.feed(x, bytes);
         Check.due("read()", x.read(), answer);
         Check.due("place()", x.place(), place);
     }
