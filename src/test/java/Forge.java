@@ -339,5 +339,27 @@ final class Forge {
         for (int i = 0; i < it.data.length(); i++) {
             Check.due(what + ": octet(" + i + ")", x.octet(e, i), it.data.charAt(i));
         }
+        areRead(what, x, e, row.extra);
+    }
+
+    /** The PARTS are those of the extra bytes, without the one of id 1. */
+    private static void areRead(String what, ZipForms x, int e, String extra) {
+        int k = 0;
+        int i = 0;
+        while (i < extra.length()) {
+            int id = extra.charAt(i) | extra.charAt(i + 1) << 8;
+            int n = extra.charAt(i + 2) | extra.charAt(i + 3) << 8;
+            i += 4;
+            if (id != 1) {
+                Check.due(what + ": id of PART " + k, x.extra(e, k, 0, 0), id);
+                Check.due(what + ": bytes of PART " + k, x.extra(e, k, 1, 0), n);
+                for (int j = 0; j < n; j++) {
+                    Check.due(what + ": byte " + j + " of PART " + k, x.extra(e, k, 2, j), extra.charAt(i + j));
+                }
+                k++;
+            }
+            i += n;
+        }
+        Check.due(what + ": about(7)", x.about(e, 7), k);
     }
 }

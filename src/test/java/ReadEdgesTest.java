@@ -42,6 +42,7 @@ public final class ReadEdgesTest {
         kind9Data();
         kind9Behind();
         kind10Names();
+        kind10Behind();
         kind10Longest();
         firstOfTwo();
         rowByRow();
@@ -185,7 +186,10 @@ public final class ReadEdgesTest {
         whole("2: the CENTRE ends at THE END", two(), f -> f.behindRows = "");
         for (int n = 1; n <= 3; n++) {
             String gap = "g".repeat(n);
-            whole("2: it ends " + n + " ahead of THE END", two(), f -> f.behindRows = gap);
+            whole("2: it ends " + n + " ahead of THE END", two(), f -> {
+                f.behindRows = gap;
+                f.comment = "a COMMENT";
+            });
         }
         int centre = 72;
         int length = 98;
@@ -451,6 +455,9 @@ public final class ReadEdgesTest {
         wideExtra("PART 1 that lacks a byte", false, wide.substring(0, 19));
         wideExtra("PART 1 that lacks all", false, wide.substring(0, 4));
         wideExtra("PART 1 of 16 + 256", false, Forge.part(1, "w".repeat(272)));
+        wideExtra("PART 1 told as 16 + 256", false, Forge.number(1, 2) + Forge.number(272, 2) + wide.substring(4));
+        wideExtra("PART 1 told as 15", false, Forge.number(1, 2) + Forge.number(15, 2) + wide.substring(4));
+        wideExtra("PART 1 told as 17", false, Forge.number(1, 2) + Forge.number(17, 2) + wide.substring(4));
         wideExtra("PART 257", false, Forge.part(257, Forge.number(3, 8) + Forge.number(3, 8)));
         for (int n = 1; n <= 3; n++) {
             wideExtra("PART 1 and " + n + " bytes", false, wide + part.substring(0, n));
@@ -585,6 +592,12 @@ public final class ReadEdgesTest {
         f.fails("6: the row to the CENTRE's place has others, 7", 7, 0);
         f.first().local.extraLie = 2;
         f.fails("6: the row beyond it", 6, 0);
+        // The least LOCAL row, of 30 bytes, ends at the CENTRE's place.
+        Forge least = Forge.one("n");
+        least.first().local.name = "";
+        least.fails("6: 30 bytes to the CENTRE's place, 7", 7, 0);
+        least.first().local.nameLie = 1;
+        least.fails("6: 30 bytes, and one beyond", 6, 0);
         // The LOCAL row is all right, but behind the CENTRE.
         Forge turned = two();
         turned.isBehindCentre = true;
@@ -667,6 +680,16 @@ public final class ReadEdgesTest {
             it.local.nameLie = -2;
             it.local.extraLie = 2;
         });
+        for (int lie : new int[] {256, 512, 1024}) {
+            atLocal("7: NAME's number by " + lie, 7, two(), it -> {
+                it.behind = "z".repeat(1100);
+                it.local.nameLie = lie;
+            });
+            atLocal("7: the extra bytes' number by " + lie, 7, two(), it -> {
+                it.behind = "z".repeat(1100);
+                it.local.extraLie = lie;
+            });
+        }
         Forge last = two();
         last.second().local.name = "twp";
         last.bytes();
@@ -910,6 +933,21 @@ public final class ReadEdgesTest {
         second.second().named("../two");
         second.bytes();
         second.fails("10: of the second", 10, second.second().rowPlace);
+    }
+
+    /** What stands behind a NAME is none of its letters. */
+    private static void kind10Behind() {
+        for (String name : new String[] {"a", "a/", "a/b", "a/b/", "."}) {
+            for (int id : new int[] {'/', '\\', '.', '.' << 8 | '.', '/' << 8 | '/', '\\' << 8 | '/'}) {
+                Forge f = Forge.one(name);
+                f.first().extra(Forge.part(id, "/..\\"));
+                f.isWhole("10: " + name + " and extra bytes");
+            }
+        }
+        Forge f = Forge.one("..");
+        f.first().extra(Forge.part('.', "a"));
+        f.bytes();
+        f.fails("10: .. and extra bytes", 10, f.first().rowPlace);
     }
 
     private static void kind10Longest() {
