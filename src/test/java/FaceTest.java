@@ -9,7 +9,7 @@ import java.util.TreeSet;
 import java.util.regex.Matcher;
 import java.util.regex.Pattern;
 
-/** The public face is the document's, and the source has none of the words that LANGUAGE.md leaves out. */
+/** The public face is the document's, and the class and its source are as LANGUAGE.md wants them. */
 public final class FaceTest {
     private static final String[] FACE = {
         "int entry(int,int,long,int)", "int name(int,long,int)", "int data(int,long,int)", "int packed(int,int,int)",
@@ -23,6 +23,7 @@ public final class FaceTest {
         constants();
         methods();
         fields();
+        counts();
         words();
         Check.end();
     }
@@ -75,13 +76,74 @@ public final class FaceTest {
         Check.due("missing: " + dueFields, dueFields.size(), 0);
     }
 
+    /** Numbers of LANGUAGE.md, rule 11. */
+    private static void counts() {
+        Class<?>[] inside = ZipForms.class.getDeclaredClasses();
+        Check.due("classes: " + inside.length, inside.length < 12 ? 1 : 0, 1);
+        for (Class<?> c : inside) {
+            Check.due("neither public nor protected: " + c,
+                c.getModifiers() & (Modifier.PUBLIC | Modifier.PROTECTED), 0);
+            counts(c);
+        }
+        counts(ZipForms.class);
+    }
+
+    private static void counts(Class<?> c) {
+        int fields = 0;
+        for (Field f : c.getDeclaredFields()) {
+            fields += Modifier.isStatic(f.getModifiers()) ? 0 : 1;
+        }
+        Check.due("fields of " + c + ": " + fields, fields <= 20 ? 1 : 0, 1);
+        for (Method m : c.getDeclaredMethods()) {
+            Check.due("parameters of " + m, m.getParameterCount() <= 7 ? 1 : 0, 1);
+        }
+    }
+
     private static void words() throws IOException {
         String source = Files.readString(Path.of("src/main/java/ZipForms.java"));
         String code = source.replaceAll("(?s)/\\*.*?\\*/", "").replaceAll("//[^\n]*", "");
-        Matcher m = Pattern.compile("\\b(throw|throws|try|catch|finally|synchronized|assert|import|package|->)\\b|::")
-            .matcher(code);
+        none(code, "\\b(throw|throws|try|catch|finally|synchronized|assert|import|package|volatile|native|double|float)\\b");
+        none(code, "->|::|\"");
+        ownTypes(code);
+        // The objects of all calls of a run share one room, so every one is made by a constructor.
+        none(code.replaceAll("(?m)^    (    )?(private )?final [^;]* = new [^;]*;", "")
+            .replaceAll("(?m)^ *(entries|rows)\\[i\\] = new (Entry|Row)\\(\\);", ""), "\\bnew\\b");
+        methodsAreShort(code);
+    }
+
+    private static void none(String code, String left) {
+        Matcher m = Pattern.compile(left).matcher(code);
         while (m.find()) {
-            Check.due("a word that is left out: " + m.group(), 1, 0);
+            Check.due("what is left out: " + m.group(), 1, 0);
         }
+    }
+
+    /** No class of the library is used at all. */
+    private static void ownTypes(String code) {
+        Set<String> own = new TreeSet<>(Set.of("ZipForms"));
+        for (Class<?> c : ZipForms.class.getDeclaredClasses()) {
+            own.add(c.getSimpleName());
+        }
+        Matcher m = Pattern.compile("\\b[A-Z][A-Za-z]*[a-z][A-Za-z]*\\b").matcher(code);
+        while (m.find()) {
+            Check.due("a class of its own: " + m.group(), own.contains(m.group()) ? 1 : 0, 1);
+        }
+    }
+
+    private static void methodsAreShort(String code) {
+        String[] lines = code.split("\n");
+        int methods = 0;
+        for (int i = 0; i < lines.length; i++) {
+            String indent = lines[i].replaceAll("\\S.*", "");
+            boolean isMethod = lines[i].matches(" {4}( {4})?\\w[\\w\\[\\] ]*\\(.*\\) \\{")
+                && !lines[i].matches(" *(if|for|while|switch) .*");
+            int end = i;
+            while (isMethod && end < lines.length && !lines[end].equals(indent + "}")) {
+                end++;
+            }
+            methods += isMethod ? 1 : 0;
+            Check.due("short: " + lines[i], end - i <= 60 ? 1 : 0, 1);
+        }
+        Check.due("methods were found", methods > 80 ? 1 : 0, 1);
     }
 }

@@ -3,7 +3,7 @@ import java.nio.ByteOrder;
 import java.util.ArrayList;
 import java.util.List;
 
-/** A second reader of the document's terms, with the Java library and exceptions: WildTest compares with it. */
+/** A second reader of the document's terms, with the Java library and exceptions: WildTest and RunsTest compare with it. */
 final class PlainReader {
     static final class Fault extends Exception {
         private static final long serialVersionUID = 1;
@@ -19,6 +19,9 @@ final class PlainReader {
     private final ByteBuffer b;
     private final List<long[]> spans = new ArrayList<>();
     private int centre;
+    /** What was read, once entries() has ended without a Fault. */
+    final List<PlainZip.Item> items = new ArrayList<>();
+    String comment = "";
 
     PlainReader(byte[] bytes) {
         b = ByteBuffer.wrap(bytes).order(ByteOrder.LITTLE_ENDIAN);
@@ -72,6 +75,7 @@ final class PlainReader {
         for (int r : rows) {
             row(r);
         }
+        comment = text(end + 22, u2(end + 20));
         return rows.size();
     }
 
@@ -106,6 +110,30 @@ final class PlainReader {
         }
         spans.add(new long[] {place, behind});
         need(isSafe(name), 10, r);
+        items.add(item(r, name, wide, (int) size, (int) real));
+    }
+
+    private PlainZip.Item item(int r, String name, boolean wide, int size, int real) {
+        PlainZip.Item it = new PlainZip.Item();
+        it.kind = name.endsWith("/") ? 2 : u2(r + 10) == 8 ? 1 : 0;
+        it.form = wide ? 2 : u2(r + 8) == 8 ? 1 : 0;
+        it.name = name;
+        it.time = u2(r + 12);
+        it.day = u2(r + 14);
+        it.attributes = b.getInt(r + 38);
+        it.local = b.getInt(r + 42);
+        int to = r + 46 + name.length() + u2(r + 30);
+        for (int i = r + 46 + name.length() + (wide ? 20 : 0); i < to; i += 4 + u2(i + 2)) {
+            it.ids.add(u2(i));
+            it.parts.add(text(i + 4, u2(i + 2)));
+        }
+        if (it.kind != 2) {
+            it.data = text(it.local + 30 + name.length() + u2(r + 30), size);
+            it.real = real;
+            it.sum = b.getInt(r + 16);
+            it.isSumTold = true;
+        }
+        return it;
     }
 
     private boolean wide(int r, int from, int to) throws Fault {
